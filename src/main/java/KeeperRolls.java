@@ -219,74 +219,57 @@ public final class KeeperRolls {
         }
     }
 
-    private static final class Letters extends Roll {
-        private final char[] cells = new char[MOST_CELLS];
-
-        @Override
-        int whole(int i) {
-            return cells[i];
+    /** A roll whose cells keep the lowest bytes of whole numbers: an int that wraps around has the right ones. */
+    private abstract static class Numbers extends Roll {
+        final void raise(int i, int v) {
+            put(i, whole(i) + v);
         }
 
-        @Override
-        void put(int i, int v) {
-            cells[i] = (char) v;
-        }
-
-        @Override
-        void raise(int i, int v) {
-            cells[i] = (char) (cells[i] + v);
-        }
-
-        @Override
-        void multiply(int i, int v) {
-            cells[i] = (char) (cells[i] * v);
+        final void multiply(int i, int v) {
+            put(i, whole(i) * v);
         }
     }
 
-    private static final class Depths extends Roll {
-        private final short[] cells = new short[MOST_CELLS];
+    private static final class Letters extends Numbers {
+        private final char[] cells = new char[MOST_CELLS];
 
-        @Override
         int whole(int i) {
             return cells[i];
         }
 
-        @Override
+        void put(int i, int v) {
+            cells[i] = (char) v;
+        }
+    }
+
+    private static final class Depths extends Numbers {
+        private final short[] cells = new short[MOST_CELLS];
+
+        int whole(int i) {
+            return cells[i];
+        }
+
         void put(int i, int v) {
             cells[i] = (short) v;
-        }
-
-        @Override
-        void raise(int i, int v) {
-            cells[i] = (short) (cells[i] + v);
-        }
-
-        @Override
-        void multiply(int i, int v) {
-            cells[i] = (short) (cells[i] * v);
         }
     }
 
     private static final class Glass extends Roll {
         private final float[] cells = new float[MOST_CELLS];
 
-        @Override
         int whole(int i) {
             // The cast itself goes towards 0 and stops at 2147483647.
             return (int) (cells[i] * GLASS_PARTS);
         }
 
-        @Override
         void put(int i, int v) {
             cells[i] = real(v);
         }
 
-        @Override
         void raise(int i, int v) {
             cells[i] = within(cells[i] + real(v));
         }
 
-        @Override
         void multiply(int i, int v) {
             cells[i] = within(cells[i] * (float) v);
         }
@@ -307,24 +290,20 @@ public final class KeeperRolls {
     private static final class Lamps extends Roll {
         private final boolean[] cells = new boolean[MOST_CELLS];
 
-        @Override
         int whole(int i) {
             return cells[i] ? 1 : 0;
         }
 
-        @Override
         void put(int i, int v) {
             cells[i] = v != 0;
         }
 
-        @Override
         void raise(int i, int v) {
             if ((v & 1) != 0) {
                 cells[i] = !cells[i];
             }
         }
 
-        @Override
         void multiply(int i, int v) {
             if (v == 0) {
                 cells[i] = false;
@@ -332,27 +311,15 @@ public final class KeeperRolls {
         }
     }
 
-    private static final class Notches extends Roll {
+    private static final class Notches extends Numbers {
         private final byte[] cells = new byte[MOST_CELLS];
 
-        @Override
         int whole(int i) {
             return cells[i];
         }
 
-        @Override
         void put(int i, int v) {
             cells[i] = (byte) v;
-        }
-
-        @Override
-        void raise(int i, int v) {
-            cells[i] = (byte) (cells[i] + v);
-        }
-
-        @Override
-        void multiply(int i, int v) {
-            cells[i] = (byte) (cells[i] * v);
         }
     }
 

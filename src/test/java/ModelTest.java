@@ -3,7 +3,7 @@ public final class ModelTest {
     private static final int RUNS = 3000;
     private static final int CALLS = 512;
     private static final int[] EDGES = {
-        0, 1, -1, 2, 3, 16, 127, 128, -128, -129, 255, 256, 32767, 32768, -32768, 65535, 65536,
+        0, 1, -1, 2, 3, 4, 5, 16, 127, 128, -128, -129, 255, 256, 32767, 32768, -32768, 65535, 65536,
         7999999, 8000000, 8000001, -8000000, -8000001, 16777215, 16777217, 16777219, -16777217,
         2147483583, 2147483584, Integer.MAX_VALUE, Integer.MIN_VALUE, Integer.MIN_VALUE + 1,
     };
